@@ -60,9 +60,9 @@ public final class LateSeekers {
     private final Actor actor;
 
     public LateSeekers() {
-        now = new Park();
+        trials = new Trials();
+        now = trials.now;
         kept = new Park();
-        trials = new Trials(now);
         tape = new TapeReader();
         rows = new Rows();
         sheets = new Sheets();
@@ -320,6 +320,7 @@ public final class LateSeekers {
 
     public long odds(int n, int k, int part) {
         if (!within(n, 0, MOST_ODDS) || !within(k, 0, n) || !within(part, 0, 1)) return BAD;
+        // odds are at most 1, so nothing here goes beyond 100 to the eighth
         long above = 1;
         long below = 1;
         for (int i = 0; i < k; i++) above = above * (n - i) / (i + 1);
@@ -687,12 +688,8 @@ public final class LateSeekers {
 
     /** What is TRIED: all goes on in the one trial, which is made as now before each. */
     private static final class Trials {
-        final Park now;
+        final Park now = new Park();
         final Park trial = new Park();
-
-        Trials(Park now) {
-            this.now = now;
-        }
 
         int shownBehind(int person, int finders) {
             trial.become(now);
@@ -1098,8 +1095,8 @@ public final class LateSeekers {
         private int a;
         private boolean partedByNothing;
 
+        /** THE TRACE is emptied by act() already, which does so even where nothing acts. */
         int perform(Park park, int person, int act, int x) {
-            traced = 0;
             partedByNothing = false;
             ownKind = park.kind[person];
             n = person;

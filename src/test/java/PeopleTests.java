@@ -277,5 +277,18 @@ final class PeopleTests {
         x.years(2);
         Check.due("19: YEAR", x.state(0), 2);
         Check.due("19: AGE", x.state(2), 123);
+        // of those who were there before, nothing is left behind a text
+        LateSeekers y = Check.parkOf("lady at 0 age 5 seeks; lady at 0 age 6; cover 0 is 0; dark 0;");
+        y.years(3);
+        Check.due("19: FINDS", y.state(3), 2);
+        Check.feedText(y, "lady at 3 age 8 seeks;");
+        y.park();
+        int[] alone = {0, 0, 8, 0, 0, 36};
+        for (int what = 0; what < 6; what++) Check.due("19: state(" + what + ") of one", y.state(what), alone[what]);
+        Check.due("7: FINDS anew", y.of(0, 5), 0);
+        Check.due("13: who", y.place(0, 1), 0);
+        Check.due("45: together", y.many(3), 0);
+        y.person(0, 1, 1, 1, 0);
+        Check.due("7: FINDS of a new one", y.of(1, 5), 0);
     }
 }

@@ -71,9 +71,9 @@ final class TextTests {
 
     private static void parkBringsAllToAsAtFirst() {
         LateSeekers x = new LateSeekers();
-        for (int i = 0; i < 8; i++) x.person(1, 50, 3, 4, 1);
+        for (int i = 0; i < 8; i++) x.person(5, 50, 3, 4, i % 2);
         x.cover(4, 8);
-        x.set(0, 5);
+        x.set(0, 90);
         x.set(1, 5);
         x.set(2, 5);
         x.set(3, 5);
@@ -82,6 +82,7 @@ final class TextTests {
         Check.feedText(x, "lamp 3; lamp 4; lady at 2;");
         Check.due("3: one", x.park(), 1);
         Check.due("3: one HIDDEN", x.state(1), 1);
+        Check.due("3: one HIDDEN", x.many(1), 1);
         Check.due("3: YEAR", x.state(0), 0);
         Check.due("3: OUT", x.lawOf(0), 60);
         Check.due("3: DARK", x.lawOf(1), 2);
@@ -129,6 +130,9 @@ final class TextTests {
 
     private static void faultsOfPeople() {
         fault("chil", 0);
+        fault("ladyz at 3;", 0);
+        fault("lady ata 3;", 5);
+        fault("lady at 3 zzz;", 10);
         fault("children at 3;", 0);
         fault("child", 5);
         fault("child  ", 7);

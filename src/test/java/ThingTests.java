@@ -36,6 +36,28 @@ final class ThingTests {
         for (int i = 0; i < 3; i++) {
             for (int what = 0; what < 3; what++) Check.due("34: row(" + i + ", " + what + ")", x.row(i, what), due[i][what]);
         }
+        // 1 is found by 2 behind the first YEAR, and goes from the second on
+        LateSeekers y = Check.parkOf("child at 0 seeks; child at 5; child at 4 wit 1 seeks; cover 5 is 0; out 99;");
+        Check.due("33: one", y.prove(1, 1), 1);
+        Check.due("36: one is right", y.judge(1), 0);
+        Check.due("33: two", y.prove(1, 2), 2);
+        int[][] found = {{5, 0, 0}, {6, 0, 0}};
+        for (int i = 0; i < 2; i++) {
+            for (int what = 0; what < 3; what++) Check.due("34: of the found one", y.row(i, what), found[i][what]);
+        }
+        Check.due("36: both are right", y.judge(1), 0);
+        y.prove(2, 1);
+        Check.due("34: of the finder, PLACE", y.row(0, 0), 5);
+        Check.due("34: of the finder, HIDDEN", y.row(0, 1), 1);
+        Check.due("34: of the finder, FINDS", y.row(0, 2), 1);
+        Check.due("36: of the finder", y.judge(2), 0);
+        y.prove(0, 1);
+        Check.due("34: of the first", y.row(0, 1), 0);
+        y.seek(0, 0);
+        y.prove(0, 1);
+        Check.due("34: HIDDEN, PLACE", y.row(0, 0), 0);
+        Check.due("34: HIDDEN", y.row(0, 1), 1);
+        Check.due("34: HIDDEN, FINDS", y.row(0, 2), 0);
         Check.due("33: nothing changes", x.state(0), 0);
         Check.due("33: nothing changes", x.of(0, 3), 3);
         Check.due("45: ROWS", x.many(4), 10);
@@ -63,7 +85,10 @@ final class ThingTests {
         Check.due("35: was", x.alterRow(1, 0, Integer.MIN_VALUE), 5);
         Check.due("34: is", x.row(1, 0), Integer.MIN_VALUE);
         Check.due("35: was that", x.alterRow(1, 0, 7), Integer.MIN_VALUE);
-        Check.due("35: of 2", x.alterRow(1, 2, 99), 0);
+        Check.due("35: of 2", x.alterRow(1, 2, 98), 0);
+        Check.due("35: of 2 again", x.alterRow(1, 2, 99), 98);
+        Check.due("35: of 1", x.alterRow(1, 1, -5), 0);
+        Check.due("35: of 1 again", x.alterRow(1, 1, 6), -5);
         Check.due("34: 2", x.row(1, 2), 99);
         Check.due("34: the other stays", x.row(0, 0), 4);
         int[][] bad = {{2, 0}, {-1, 0}, {0, 3}, {0, -1}, {Integer.MAX_VALUE, 0}, {0, Integer.MIN_VALUE}};
@@ -102,7 +127,11 @@ final class ThingTests {
         Check.due("37: three", x.minds(2, 1, 1, 3), 3);
         int[] due = {5, 0, 9, 9};
         for (int i = 0; i < 4; i++) Check.due("37: WIT of " + i, x.of(i, 2), due[i]);
+        Check.due("37: one alone", x.minds(2, 0, 1, 1), 1);
+        Check.due("37: WIT of 1", x.of(1, 2), 4);
+        Check.due("37: the next stays", x.of(2, 2), 9);
         Check.due("37: all", x.minds(2, 0, 0, 4), 4);
+        Check.due("37: WIT of 1", x.of(1, 2), 0);
         Check.due("37: WIT of 0", x.of(0, 2), 4);
         Check.due("37: none from the end", x.minds(2, 5, 3, 0), 0);
         Check.due("37: to the end", x.minds(2, 4, 3, 1), 1);
@@ -141,15 +170,20 @@ final class ThingTests {
             Check.due("38: a row", x.sheet(1, sort, 40), 1);
             Check.due("38: all 0", x.item(1, sort, 39), 0);
             Check.due("39: put", x.put(1, 39, 5), 1);
+            Check.due("39: put first", x.put(1, 0, 6), 1);
             Check.due("40: item", x.item(1, sort, 39), 5);
             Check.due("38: anew", x.sheet(1, sort, 40), 1);
-            Check.due("38: all 0 again", x.item(1, sort, 39), 0);
+            for (int i = 0; i < 40; i++) Check.due("38: all 0 again", x.item(1, sort, i), 0);
         }
         Check.due("38: an empty row", x.sheet(1, 2, 0), 1);
         Check.due("40: has no item", x.item(1, 2, 0), -12);
         Check.due("38: missing, n counts nothing", x.sheet(1, -1, 99), 1);
         Check.due("40: missing", x.item(1, 2, 0), -11);
         Check.due("38: missing again", x.sheet(1, -1, Integer.MIN_VALUE), 1);
+        x.sheet(3, 2, 40);
+        x.put(3, 0, 7);
+        x.sheet(2, 2, 40);
+        Check.due("38: the next SHEET stays", x.item(3, 2, 0), 7);
         x.sheet(0, 1, 3);
         x.put(0, 2, 8);
         int[][] bad = {{4, 0, 1}, {-1, 0, 1}, {0, 4, 1}, {0, -2, 1}, {0, 0, 41}, {0, 0, Integer.MAX_VALUE}, {4, -1, 0}, {0, 4, -1}, {-1, 0, -1}};
@@ -211,6 +245,9 @@ final class ThingTests {
             for (int as = 10; as <= 13; as++) Check.due("42: a row", x.taken(3, as), as - 10 == sort ? 7 + sort : -13);
             for (int as = 0; as < 6; as++) Check.due("42: a row as a thing", x.taken(3, as), -13);
         }
+        x.shelf(3, 0, 5);
+        Check.due("42: one in a row's stead", x.taken(3, 5), 5);
+        x.shelf(3, 1, 2);
         Check.due("41: nothing", x.shelf(3, 2, 99), 1);
         Check.due("42: nothing", x.taken(3, 0), -11);
         Check.due("42: nothing as a row", x.taken(3, 10), -11);
@@ -303,6 +340,10 @@ final class ThingTests {
         traced(x, "scholar calls", 41, 11, 40, 30, 10, 40, 30, 10);
         Check.due("43: scholar looks", x.act(2, 3, 11), (-22 ^ 12) - 0);
         traced(x, "scholar looks", 31, 13, 41, 11, 40, 30, 10, 40, 30, 10, 12);
+        x.mind(1, 4, 2);
+        // counts(2) is 1 - (0 ^ 3) = -2, counts(11) is -9
+        Check.due("43: scholar calls with wit 2", x.act(2, 1, 11), -9 * 2 - 2 + -2);
+        Check.due("43: scholar looks with wit 2", x.act(2, 3, 11), (-22 ^ 12) - 1);
         x.mind(1, 5, 4);
         Check.due("43: lady looks", x.act(2, 3, 11), (14 ^ 12) * 3);
         traced(x, "lady looks", 60, 13, 11, 10);
@@ -369,6 +410,7 @@ final class ThingTests {
     private static void kept() {
         LateSeekers x = Check.parkOf("child at 3 age 4 wit 5; child at 2 wit 9 seeks; cover 3 is 0; out 70; dark 3; lamp 4; peep 5;");
         x.years(3);
+        Check.due("46: 1 has found 0", x.of(1, 5), 1);
         x.seed(11);
         x.prove(0, 3);
         Check.due("46: kept", x.keep(), 1);

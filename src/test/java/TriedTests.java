@@ -67,6 +67,9 @@ final class TriedTests {
         Check.holds("17: some were peeped at, some weren't", toggled > 20 && toggled < 70);
         LateSeekers x = Check.parkOf("lady at 0; peep 0;");
         for (int i = 0; i < 20; i++) Check.due("17: PEEP 0", x.year(), 1);
+        LateSeekers y = Check.parkOf("child at 4; child at 3 wit 1 seeks; peep 0;");
+        y.year();
+        Check.due("17: then a YEAR, in which all find", y.state(1), 0b10);
     }
 
     private static void nights() {
@@ -89,6 +92,14 @@ final class TriedTests {
     private static void where() {
         LateSeekers x = Check.parkOf("grandson at 1 seeks; lady at 5;");
         for (int n = 0; n <= 60; n++) Check.due("20: where(0, " + n + ")", x.where(0, n), (1 + 3 * n) % 12);
+        // 1 finds 0 behind 2 YEARS, which then goes, but 1 stays
+        LateSeekers y = Check.parkOf("child at 4; child at 2 wit 1 seeks;");
+        int[] first = {4, 4, 4, 5, 6};
+        int[] second = {2, 3, 4, 4, 4};
+        for (int n = 0; n < 5; n++) {
+            Check.due("20: of the found one", y.where(0, n), first[n]);
+            Check.due("20: of the finder", y.where(1, n), second[n]);
+        }
         Check.due("20: 61", x.where(0, 61), -1);
         Check.due("20: -1", x.where(0, -1), -1);
         Check.due("20: nobody", x.where(2, 0), -1);
@@ -117,6 +128,13 @@ final class TriedTests {
         Check.due("22: at the very last", x.all(), 60);
         x.set(0, 61);
         Check.due("22: not by then", x.all(), -3);
+        // 1 finds 0 and is HIDDEN for it, until 0 finds it, and so on: somebody is, until both come out
+        LateSeekers y = Check.parkOf("child at 4; child at 3 wit 1 seeks; cover 4 is 0;");
+        Check.due("22: by turns", y.all(), 60);
+        y.age(0, 49);
+        y.age(1, 39);
+        // 0 comes round behind 13, finds 1, is HIDDEN and of 62: it comes out in the next YEAR
+        Check.due("22: comes out again", y.all(), 14);
         x.seek(0, 1);
         x.seek(1, 1);
         Check.due("22: now", x.all(), 0);
@@ -178,6 +196,8 @@ final class TriedTests {
     private static void witFor() {
         // a child of wit 2 sees 5 at 4 behind 2 YEARS: COVER 1 and WIT 4 hide from it
         LateSeekers x = Check.parkOf("child at 4 wit 0; child at 2 wit 2 seeks; cover 4 is 1;");
+        LateSeekers y = Check.parkOf("child at 4; child at 3 wit 7 seeks; cover 4 is 1;");
+        Check.due("26: the most wit is wanted", y.witFor(0, 1), 9);
         Check.due("26: behind 1 no wit is wanted", x.witFor(0, 1), 0);
         Check.due("26: behind 2", x.witFor(0, 2), 4);
         x.cover(4, 9);
@@ -223,6 +243,9 @@ final class TriedTests {
         LateSeekers z = Check.parkOf("child at 5 wit 3; child at 4 wit 9; keeper at 5 wit 9 seeks; lamp 0; out 99;");
         Check.due("28: two are wanted", z.fewest(0, 2), 0b110);
         Check.due("28: not so soon", z.fewest(0, 1), -3);
+        LateSeekers w = Check.parkOf("child at 4 wit 2 seeks; widower at 5 wit 3; cover 5 is 0; lamp 9;");
+        Check.due("28: nobody is wanted where one SEEKS on", w.fewest(0, 7), 0);
+        Check.due("28: its finder is", w.fewest(1, 1), 0b01);
         for (int n : new int[] {0, 21, -1, Integer.MIN_VALUE, Integer.MAX_VALUE}) Check.due("28: n " + n, x.fewest(0, n), -1);
     }
 
