@@ -34,7 +34,8 @@ final class ParkEdges {
         Doc.says("YEAR (0 at first).");
         new Play().asked(0, "state", 0).due(0, "years", 1).asked(1, "state", 0).due(0, "park").asked(0, "state", 0);
         Doc.says("PLACES 0 to 11 round (behind 11 comes 0),");
-        Play p = new Play().badOutside(0, 11, 0, "place", 0, 0).badOutside(0, 11, 0, "cover", 0, 1).badOutside(0, 11, 0, "round", 0);
+        Play p = new Play().badOutside(0, 11, 0, "place", 0, 0).badOutside(0, 11, 0, "cover", 0, 1)
+            .badOutside(0, 11, 0, "round", 0);
         p.badOutside(0, 11, 3, "person", 0, 0, 0, 0, 0).due(0, "person", 0, 0, 0, 11, 1).due(1, "person", 2, 0, 0, 0, 1);
         p.badOutside(0, 11, 1, "bring", 0, 0).due(0, "years", 1).one(0, 0, 1, 0, 0, 0, 0).one(1, 2, 1, 0, 11, 0, 0);
         p.due(0, "bring", 0, 11).due(11, "bring", 0, 0);
@@ -59,7 +60,8 @@ final class ParkEdges {
     }
 
     private static void kinds() {
-        Doc.says("each of a KIND: 0 child; 1 widower, 2 keeper, 5 lady (under child); 3 grandson (under widower); 4 scholar (under keeper);");
+        Doc.says("each of a KIND: 0 child; 1 widower, 2 keeper, 5 lady (under child); 3 grandson (under widower); 4 "
+            + "scholar (under keeper);");
         String[] names = {"child", "widower", "keeper", "grandson", "scholar", "lady"};
         int[] under = {-1, 0, 0, 1, 2, 0};
         for (int kind = 0; kind < 6; kind++) {
@@ -70,23 +72,28 @@ final class ParkEdges {
                 p.asked(is ? 0 : -13, "taken", 0, as);
             }
         }
-        new Play().badOutside(0, 5, 0, "person", 0, 0, 0, 0, 0).due(0, "person", 5, 0, 0, 0, 0).badOutside(0, 5, 1, "mind", 0, 0, 0);
+        new Play().badOutside(0, 5, 0, "person", 0, 0, 0, 0, 0).due(0, "person", 5, 0, 0, 0, 0)
+            .badOutside(0, 5, 1, "mind", 0, 0, 0);
     }
 
     private static void partsOfOne() {
         Doc.says("with AGE (0 to 99),");
-        Play p = new Play().badOutside(0, 99, 1, "person", 0, 0, 0, 0, 0).due(0, "person", 0, 0, 0, 0, 0).due(1, "person", 0, 99, 0, 0, 0);
+        Play p = new Play().badOutside(0, 99, 1, "person", 0, 0, 0, 0, 0).due(0, "person", 0, 0, 0, 0, 0)
+            .due(1, "person", 0, 99, 0, 0, 0);
         p.is(0, "of", 0, 1).is(99, "of", 1, 1).badOutside(0, 99, 1, "age", 0, 0).due(0, "age", 0, 99).due(99, "age", 1, 0);
         p.is(99, "of", 0, 1).is(0, "of", 1, 1);
         Doc.says("WIT (0 to 9),");
-        Play q = new Play().badOutside(0, 9, 2, "person", 0, 0, 0, 0, 0).due(0, "person", 0, 0, 0, 0, 0).due(1, "person", 0, 0, 9, 0, 0);
-        q.is(0, "of", 0, 2).is(9, "of", 1, 2).badOutside(0, 9, 2, "mind", 0, 0, 0).due(0, "mind", 0, 0, 9).due(0, "mind", 1, 0, 0);
+        Play q = new Play().badOutside(0, 9, 2, "person", 0, 0, 0, 0, 0).due(0, "person", 0, 0, 0, 0, 0)
+            .due(1, "person", 0, 0, 9, 0, 0);
+        q.is(0, "of", 0, 2).is(9, "of", 1, 2).badOutside(0, 9, 2, "mind", 0, 0, 0).due(0, "mind", 0, 0, 9)
+            .due(0, "mind", 1, 0, 0);
         q.is(9, "of", 0, 2).is(0, "of", 1, 2);
         Doc.says("AT a PLACE;");
         Play r = new Play().due(0, "person", 0, 0, 0, 0, 0).due(1, "person", 0, 0, 0, 11, 0).is(0, "of", 0, 3).is(11, "of", 1, 3);
         r.is(1, "place", 0, 1).is(2, "place", 11, 1);
         Doc.says("it is HIDDEN, or SEEKS;");
-        Play s = new Play().badOutside(0, 1, 4, "person", 0, 0, 0, 0, 0).due(0, "person", 0, 0, 0, 0, 0).due(1, "person", 0, 0, 0, 0, 1);
+        Play s = new Play().badOutside(0, 1, 4, "person", 0, 0, 0, 0, 0).due(0, "person", 0, 0, 0, 0, 0)
+            .due(1, "person", 0, 0, 0, 0, 1);
         s.is(1, "of", 0, 4).is(0, "of", 1, 4).badOutside(0, 1, 1, "seek", 0, 0).due(0, "seek", 0, 1).due(1, "seek", 1, 0);
         s.is(0, "of", 0, 4).is(1, "of", 1, 4);
         Doc.says("FINDS: how many it found (0 to 99; 0 at first).");
@@ -139,7 +146,8 @@ final class ParkEdges {
         }
         Doc.says("lady: as child, and DARK.");
         does(HIDES, 2, 5, 0, 0, 99);
-        Play q = Play.of("lady at 0 wit 9; child at 0 wit 9; cover 0 is 9; dark 9;").is(1027, "does", 0, 0).is(1018, "does", 1, 0);
+        Play q = Play.of("lady at 0 wit 9; child at 0 wit 9; cover 0 is 9; dark 9;").is(1027, "does", 0, 0)
+            .is(1018, "does", 1, 0);
         q.due(9, "set", 1, 0).is(1018, "does", 0, 0);
     }
 

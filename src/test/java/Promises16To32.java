@@ -25,7 +25,8 @@ final class Promises16To32 {
     private static void seedAndYear() {
         Doc.section("promise 16");
         Doc.says("z becomes v: what it was.");
-        new Play().due(1, "seed", 0).due(0, "seed", -1).due(-1, "seed", LEAST).due(LEAST, "seed", MOST).due(MOST, "seed", MOST).due(MOST, "seed", -3);
+        new Play().due(1, "seed", 0).due(0, "seed", -1).due(-1, "seed", LEAST).due(LEAST, "seed", MOST).due(MOST, "seed", MOST)
+            .due(MOST, "seed", -3);
         Doc.section("promise 17");
         Doc.says("A YEAR BY DRAWS: how many are HIDDEN then.");
         new Play().due(0, "year").is(1, "state", 0).due(1, "seed", 1);
@@ -33,7 +34,8 @@ final class Promises16To32 {
         Play.of("lady at 0; lady at 1 age 59; peep 0;").due(1, "year");
         for (int finder = 0; finder < 8; finder++) {
             int other = (finder + 1) % 8;
-            Play.withFinder(finder, other).due(20, "set", 3, 0).due(7, "year").is(255 & ~(1 << other), "state", 1).is(1, "of", finder, 5);
+            Play.withFinder(finder, other).due(20, "set", 3, 0).due(7, "year").is(255 & ~(1 << other), "state", 1)
+                .is(1, "of", finder, 5);
         }
         // PEEP 99 and one alone: by turns, but for what 99 leaves
         Play p = Play.of("lady at 0; peep 99;");
@@ -70,7 +72,8 @@ final class Promises16To32 {
 
     private static void state() {
         Doc.section("promise 19");
-        Doc.says("What = 0 YEAR, 1 those HIDDEN, as a set, 2 AGE of all together, 3 FINDS of all together, 4 PLACES AT which one is HIDDEN, as a set, 5 COVER of all PLACES together.");
+        Doc.says("What = 0 YEAR, 1 those HIDDEN, as a set, 2 AGE of all together, 3 FINDS of all together, 4 PLACES AT "
+            + "which one is HIDDEN, as a set, 5 COVER of all PLACES together.");
         Play p = new Play();
         int[] none = {0, 0, 0, 0, 0, 36};
         for (int what = 0; what < 6; what++) p.asked(none[what], "state", what);
@@ -82,8 +85,10 @@ final class Promises16To32 {
         for (int place = 0; place < 12; place++) q.call("cover", place, 0);
         q.asked(0, "state", 5).due(0, "seek", 0, 1).due(0, "seek", 7, 1).asked(126, "state", 1).asked(0b011111100000, "state", 4);
         // two AT one PLACE are one PLACE; FINDS of both are told
-        Play r = Play.of("child at 3 wit 9 seeks; child at 4; child at 10 wit 9 seeks; child at 11; lady at 4 wit 9;").due(3, "years", 1);
-        r.asked(1, "state", 0).asked(0b10101, "state", 1).asked(5, "state", 2).asked(2, "state", 3).asked(1 << 4 | 1 << 11, "state", 4);
+        Play r = Play.of("child at 3 wit 9 seeks; child at 4; child at 10 wit 9 seeks; child at 11; lady at 4 wit 9;")
+            .due(3, "years", 1);
+        r.asked(1, "state", 0).asked(0b10101, "state", 1).asked(5, "state", 2).asked(2, "state", 3)
+            .asked(1 << 4 | 1 << 11, "state", 4);
         Doc.says("BAD.");
         r.badOutside(0, 5, 0, "state", 0);
         p.badOutside(0, 5, 0, "state", 0);
@@ -110,7 +115,8 @@ final class Promises16To32 {
     private static void shownAndAll() {
         Doc.section("promise 21");
         Doc.says("SHOWN.");
-        Play p = Play.of("lady at 0; lady at 1 age 59; lady at 2 seeks; child at 4; child at 1 wit 1 seeks;").asked(60, "shown", 0).asked(1, "shown", 1).asked(0, "shown", 2);
+        Play p = Play.of("lady at 0; lady at 1 age 59; lady at 2 seeks; child at 4; child at 1 wit 1 seeks;")
+            .asked(60, "shown", 0).asked(1, "shown", 1).asked(0, "shown", 2);
         p.asked(3, "shown", 3).asked(0, "shown", 4);
         for (int finder = 0; finder < 8; finder++) Play.withFinder(finder, (finder + 1) % 8).asked(1, "shown", (finder + 1) % 8);
         Doc.says("BAD;");
@@ -137,8 +143,10 @@ final class Promises16To32 {
     private static void finder() {
         Doc.section("promise 23");
         Doc.says("FINDER of one.");
-        Play p = Play.of("child at 3 wit 9 seeks; child at 4; child at 8; child at 6 wit 3 seeks;").asked(0, "finder", 1).asked(3, "finder", 2);
-        for (int finder = 0; finder < 8; finder++) Play.withFinder(finder, (finder + 1) % 8).asked(finder, "finder", (finder + 1) % 8);
+        Play p = Play.of("child at 3 wit 9 seeks; child at 4; child at 8; child at 6 wit 3 seeks;").asked(0, "finder", 1)
+            .asked(3, "finder", 2);
+        for (int finder = 0; finder < 8; finder++) Play.withFinder(finder, (finder + 1) % 8)
+            .asked(finder, "finder", (finder + 1) % 8);
         // two come in the same YEAR: the lesser number finds it
         Play.of("keeper at 5 wit 9 seeks; child at 3 wit 9 seeks; child at 4;").asked(0, "finder", 2);
         Play.of("child at 4; child at 3 wit 9 seeks; keeper at 5 wit 9 seeks;").asked(1, "finder", 0);
@@ -147,7 +155,8 @@ final class Promises16To32 {
         new Play().asked(-1, "finder", 0);
         Doc.says("NONE: nobody (also if it SEEKS now, comes out, is not SHOWN by then).");
         p.asked(-3, "finder", 0).asked(-3, "finder", 3);
-        Play.of("lady at 4; child at 3 seeks; lady at 5 age 59;").asked(-3, "finder", 0).asked(-3, "finder", 2).due(60, "set", 0, 99).asked(-3, "finder", 0);
+        Play.of("lady at 4; child at 3 seeks; lady at 5 age 59;").asked(-3, "finder", 0).asked(-3, "finder", 2)
+            .due(60, "set", 0, 99).asked(-3, "finder", 0);
         // it comes out in the very YEAR in which one comes that would see it
         Play.of("child at 4 age 59; lady at 5 wit 9 seeks;").asked(1, "shown", 0).asked(-3, "finder", 0);
         // it was found once, but SEEKS since
@@ -158,8 +167,10 @@ final class Promises16To32 {
         Doc.section("promise 24");
         Doc.says("SAFE FOR one.");
         Play.of("lady at 5;").asked(0, "safeFor", 0);
-        Play p = Play.of("child at 5; child at 5 wit 9 seeks; out 99;").asked(5, "safeFor", 0).due(5, "bring", 1, 11).asked(11, "safeFor", 0).due(0, "seek", 0, 1).asked(11, "safeFor", 0);
-        for (int finder = 0; finder < 8; finder++) Play.withFinder(finder, (finder + 1) % 8).asked(3, "safeFor", (finder + 1) % 8);
+        Play p = Play.of("child at 5; child at 5 wit 9 seeks; out 99;").asked(5, "safeFor", 0).due(5, "bring", 1, 11)
+            .asked(11, "safeFor", 0).due(0, "seek", 0, 1).asked(11, "safeFor", 0);
+        for (int finder = 0; finder < 8; finder++) Play.withFinder(finder, (finder + 1) % 8)
+            .asked(3, "safeFor", (finder + 1) % 8);
         // the one that SEEKS, HIDDEN: with 0 HIDDEN too nobody SEEKS, and all is alike
         p.due(1, "seek", 0, 0).asked(0, "safeFor", 1);
         Doc.says("BAD.");
@@ -168,9 +179,11 @@ final class Promises16To32 {
         Doc.section("promise 25");
         Doc.says("KIND FOR one.");
         Play.of("lady at 5;").asked(0, "kindFor", 0);
-        Play q = Play.of("child at 4 age 20; child at 3 wit 1 seeks; out 99;").asked(5, "kindFor", 0).due(2, "set", 1, 0).asked(0, "kindFor", 0).due(3, "cover", 4, 5).asked(0, "kindFor", 0);
+        Play q = Play.of("child at 4 age 20; child at 3 wit 1 seeks; out 99;").asked(5, "kindFor", 0).due(2, "set", 1, 0)
+            .asked(0, "kindFor", 0).due(3, "cover", 4, 5).asked(0, "kindFor", 0);
         q.asked(0, "kindFor", 1);
-        for (int finder = 0; finder < 8; finder++) Play.withFinder(finder, (finder + 1) % 8).due(2, "set", 1, 9).asked(5, "kindFor", (finder + 1) % 8);
+        for (int finder = 0; finder < 8; finder++) Play.withFinder(finder, (finder + 1) % 8).due(2, "set", 1, 9)
+            .asked(5, "kindFor", (finder + 1) % 8);
         Doc.says("BAD.");
         q.badOutside(0, 1, 0, "kindFor", 0);
         new Play().asked(-1, "kindFor", 0);
@@ -184,9 +197,11 @@ final class Promises16To32 {
             Play p = new Play().due(0, "person", 0, 0, 9, 4, 0).due(1, "person", 0, 0, wit, 3, 1).due(3, "cover", 4, 1);
             p.asked(wit + 2, "witFor", 0, 1).asked(8, "witFor", 1, 1).asked(-3, "witFor", 1, 20);
         }
-        Play far = Play.of("child at 4; child at 8 wit 3 seeks; cover 4 is 1; out 99;").asked(0, "witFor", 0, 7).asked(5, "witFor", 0, 8);
+        Play far = Play.of("child at 4; child at 8 wit 3 seeks; cover 4 is 1; out 99;").asked(0, "witFor", 0, 7)
+            .asked(5, "witFor", 0, 8);
         Play.of("lady at 4 age 40;").asked(0, "witFor", 0, 19);
-        for (int finder = 0; finder < 8; finder++) Play.withFinder(finder, (finder + 1) % 8).asked(9, "witFor", (finder + 1) % 8, 1);
+        for (int finder = 0; finder < 8; finder++) Play.withFinder(finder, (finder + 1) % 8)
+            .asked(9, "witFor", (finder + 1) % 8, 1);
         Doc.says("BAD;");
         far.badOutside(0, 1, 0, "witFor", 0, 1).badOutside(1, 20, 1, "witFor", 0, 1);
         new Play().asked(-1, "witFor", 0, 1);
@@ -199,8 +214,10 @@ final class Promises16To32 {
     private static void needed() {
         Doc.section("promise 27");
         Doc.says("NEEDED for one.");
-        Play p = Play.of("child at 3 wit 9 seeks; child at 4; child at 9; child at 6 wit 3 seeks; out 99;").asked(0, "needed", 1).asked(3, "needed", 2);
-        for (int finder = 0; finder < 8; finder++) Play.withFinder(finder, (finder + 1) % 8).asked(finder, "needed", (finder + 1) % 8);
+        Play p = Play.of("child at 3 wit 9 seeks; child at 4; child at 9; child at 6 wit 3 seeks; out 99;").asked(0, "needed", 1)
+            .asked(3, "needed", 2);
+        for (int finder = 0; finder < 8; finder++) Play.withFinder(finder, (finder + 1) % 8)
+            .asked(finder, "needed", (finder + 1) % 8);
         Doc.says("BAD;");
         p.badOutside(0, 3, 0, "needed", 0);
         new Play().asked(-1, "needed", 0);
@@ -214,8 +231,10 @@ final class Promises16To32 {
     private static void fewest() {
         Doc.section("promise 28");
         Doc.says("FEWEST for one, n (1 to 20).");
-        Play p = Play.of("child at 4; child at 8 wit 9 seeks; lady at 6 age 40;").asked(2, "fewest", 0, 8).asked(2, "fewest", 0, 20).asked(0, "fewest", 1, 1).asked(0, "fewest", 2, 20);
-        for (int finder = 0; finder < 8; finder++) Play.withFinder(finder, (finder + 1) % 8).asked(1 << finder, "fewest", (finder + 1) % 8, 1);
+        Play p = Play.of("child at 4; child at 8 wit 9 seeks; lady at 6 age 40;").asked(2, "fewest", 0, 8)
+            .asked(2, "fewest", 0, 20).asked(0, "fewest", 1, 1).asked(0, "fewest", 2, 20);
+        for (int finder = 0; finder < 8; finder++) Play.withFinder(finder, (finder + 1) % 8)
+            .asked(1 << finder, "fewest", (finder + 1) % 8, 1);
         Doc.says("BAD;");
         p.badOutside(0, 2, 0, "fewest", 0, 1).badOutside(1, 20, 1, "fewest", 0, 1);
         new Play().asked(-1, "fewest", 0, 1);
@@ -229,7 +248,8 @@ final class Promises16To32 {
         Doc.says("ROUND from a PLACE.");
         for (int place = 0; place < 12; place++) {
             new Play().asked(0, "round", place);
-            Play.of("lady at " + place + ";").asked(0, "round", place).asked(1, "round", (place + 1) % 12).asked(1, "round", (place + 11) % 12).asked(6, "round", (place + 6) % 12);
+            Play.of("lady at " + place + ";").asked(0, "round", place).asked(1, "round", (place + 1) % 12)
+                .asked(1, "round", (place + 11) % 12).asked(6, "round", (place + 6) % 12);
         }
         Doc.says("BAD.");
         Play.of("lady at 3;").badOutside(0, 11, 0, "round", 0);
@@ -240,15 +260,19 @@ final class Promises16To32 {
         Doc.section("promise 30");
         Doc.says("FITS: what = 0 how many WITS, 1 the least.");
         // 1 sees 12 and comes to 4 behind 1 YEAR: all but WIT 9 are found (3 + 9 is not less)
-        Play p = Play.of("child at 4; child at 3 wit 9 seeks; out 99;").due(1, "sheet", 0, 0, 2).due(1, "put", 0, 0, 4).due(1, "put", 0, 1, 4);
-        p.asked(1, "fits", 0, 0, 0).asked(9, "fits", 0, 0, 1).due(1, "put", 0, 1, 5).asked(9, "fits", 0, 0, 0).asked(0, "fits", 0, 0, 1);
+        Play p = Play.of("child at 4; child at 3 wit 9 seeks; out 99;").due(1, "sheet", 0, 0, 2).due(1, "put", 0, 0, 4)
+            .due(1, "put", 0, 1, 4);
+        p.asked(1, "fits", 0, 0, 0).asked(9, "fits", 0, 0, 1).due(1, "put", 0, 1, 5).asked(9, "fits", 0, 0, 0)
+            .asked(0, "fits", 0, 0, 1);
         p.due(1, "sheet", 3, 3, 0).asked(10, "fits", 3, 0, 0).asked(0, "fits", 3, 0, 1).asked(10, "fits", 3, 1, 0);
         for (int finder = 0; finder < 8; finder++) {
-            Play q = Play.withFinder(finder, (finder + 1) % 8).due(1, "sheet", 0, 2, 2).due(1, "put", 0, 0, 4).due(1, "put", 0, 1, 5);
+            Play q = Play.withFinder(finder, (finder + 1) % 8).due(1, "sheet", 0, 2, 2).due(1, "put", 0, 0, 4)
+                .due(1, "put", 0, 1, 5);
             q.asked(9, "fits", 0, (finder + 1) % 8, 0).asked(0, "fits", 0, (finder + 1) % 8, 1);
         }
         Doc.says("BAD: no such SHEET, one, what;");
-        p.badOutside(0, 3, 0, "fits", 0, 0, 0).badOutside(0, 1, 1, "fits", 0, 0, 0).badOutside(0, 1, 2, "fits", 0, 0, 0).asked(-1, "fits", 1, 2, 0).asked(-1, "fits", 1, 0, 2);
+        p.badOutside(0, 3, 0, "fits", 0, 0, 0).badOutside(0, 1, 1, "fits", 0, 0, 0).badOutside(0, 1, 2, "fits", 0, 0, 0)
+            .asked(-1, "fits", 1, 2, 0).asked(-1, "fits", 1, 0, 2);
         new Play().due(1, "sheet", 0, 0, 0).asked(-1, "fits", 0, 0, 0);
         Doc.says("-11;");
         p.asked(-11, "fits", 1, 0, 0).asked(-11, "fits", 2, 0, 1).due(1, "sheet", 0, -1, 0).asked(-11, "fits", 0, 0, 1);
@@ -265,16 +289,19 @@ final class Promises16To32 {
         for (int k = 0; k <= 8; k++) p.asked(above[k], "odds", 8, k, 0).asked(below[k], "odds", 8, k, 1);
         p.asked(1, "odds", 0, 0, 0).asked(1, "odds", 0, 0, 1).asked(1, "odds", 1, 0, 0).asked(2, "odds", 1, 1, 1);
         // 8 times 7 by 2 times 1, and 33 and 67 of a hundred: no common divisor but 4
-        Play.of("peep 33;").asked(7L * 33 * 33 * 67 * 67 * 67 * 67 * 67 * 67, "odds", 8, 2, 0).asked(10000000000000000L / 4, "odds", 8, 2, 1);
+        Play.of("peep 33;").asked(7L * 33 * 33 * 67 * 67 * 67 * 67 * 67 * 67, "odds", 8, 2, 0)
+            .asked(10000000000000000L / 4, "odds", 8, 2, 1);
         Doc.says("BAD.");
         for (int n = 0; n <= 8; n++) p.badOutside(0, n, 1, "odds", n, 0, 0);
-        p.badOutside(0, 8, 0, "odds", 0, 0, 0).badOutside(0, 1, 2, "odds", 8, 8, 0).asked(-1, "odds", 9, 9, 0).asked(-1, "odds", -1, -1, 0);
+        p.badOutside(0, 8, 0, "odds", 0, 0, 0).badOutside(0, 1, 2, "odds", 8, 8, 0).asked(-1, "odds", 9, 9, 0)
+            .asked(-1, "odds", -1, -1, 0);
     }
 
     private static void hope() {
         Doc.section("promise 32");
         Doc.says("HOPE by n (0 to 99): a part of it.");
-        Play p = new Play().asked(0, "hope", 0, 0).asked(1, "hope", 0, 1).asked(1, "hope", 1, 0).asked(5, "hope", 1, 1).asked(99, "hope", 99, 0).asked(5, "hope", 99, 1);
+        Play p = new Play().asked(0, "hope", 0, 0).asked(1, "hope", 0, 1).asked(1, "hope", 1, 0).asked(5, "hope", 1, 1)
+            .asked(99, "hope", 99, 0).asked(5, "hope", 99, 1);
         p.asked(19, "hope", 95, 0).asked(1, "hope", 95, 1);
         Doc.says("BAD.");
         p.badOutside(0, 99, 0, "hope", 0, 0).badOutside(0, 1, 1, "hope", 99, 0);

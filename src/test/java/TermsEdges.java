@@ -67,7 +67,8 @@ final class TermsEdges {
         p.asked(-1, "fits", 4, 0, 0).asked(-11, "fits", 3, 0, 0).asked(-1, "odds", 9, 0, 0).asked(-1, "hope", 100, 0);
         p.asked(-1, "prove", 0, 11).asked(-1, "prove", 3, 2).asked(-9, "row", 4, 0).asked(-9, "alterRow", 4, 0, 1);
         p.asked(-9, "alterRow", 0, 3, 1).asked(-1, "judge", 3).asked(-1, "minds", 0, 0, 0, 4).asked(-11, "minds", 3, 0, 0, 1);
-        p.asked(-13, "minds", 1, 0, 0, 1).asked(-12, "minds", 0, 3, 0, 3).asked(-1, "sheet", 0, 4, 1).asked(-1, "sheet", 0, 0, 41);
+        p.asked(-13, "minds", 1, 0, 0, 1).asked(-12, "minds", 0, 3, 0, 3).asked(-1, "sheet", 0, 4, 1)
+            .asked(-1, "sheet", 0, 0, 41);
         p.asked(-14, "sheet", 0, 0, -1).asked(-1, "put", 4, 0, 1).asked(-11, "put", 3, 0, 1).asked(-12, "put", 0, 5, 1);
         p.asked(-1, "item", 0, 4, 0).asked(-11, "item", 3, 0, 0).asked(-13, "item", 0, 1, 0).asked(-12, "item", 0, 0, 5);
         p.asked(-1, "shelf", 0, 3, 0).asked(-1, "shelf", 0, 0, 3).asked(-1, "shelf", 0, 1, 4).asked(-1, "taken", 0, 6);
@@ -92,8 +93,10 @@ final class TermsEdges {
         p.call("sheet", 0, 0, 2);
         p.call("sheet", 1, 1, 2);
         // a SHEET that is missing, of another sort, with an i outside, asked for too many, for nobody
-        p.asked(-1, "minds", 2, 9, 8, 1).asked(-1, "minds", 2, 9, 7, 2).asked(-1, "minds", 1, 9, 7, 2).asked(-1, "minds", 0, 9, 0, 9);
-        p.asked(-1, "minds", 4, 9, 0, 1).asked(-11, "minds", 2, 9, 0, 1).asked(-13, "minds", 1, 9, 0, 1).asked(-12, "minds", 0, 9, 0, 1);
+        p.asked(-1, "minds", 2, 9, 8, 1).asked(-1, "minds", 2, 9, 7, 2).asked(-1, "minds", 1, 9, 7, 2)
+            .asked(-1, "minds", 0, 9, 0, 9);
+        p.asked(-1, "minds", 4, 9, 0, 1).asked(-11, "minds", 2, 9, 0, 1).asked(-13, "minds", 1, 9, 0, 1)
+            .asked(-12, "minds", 0, 9, 0, 1);
         p.asked(-1, "fits", 2, 8, 0).asked(-1, "fits", 2, 0, 2).asked(-11, "fits", 2, 0, 1);
         p.asked(-1, "sheet", 4, 0, -1).asked(-1, "sheet", 0, 4, -1).asked(-14, "sheet", 0, 3, -1);
         p.asked(-1, "put", 4, 9, 0).asked(-11, "put", 2, 9, 0).asked(-12, "put", 0, 9, 0);
@@ -129,7 +132,8 @@ final class TermsEdges {
     private static void sets() {
         Doc.says("Sets are told by bits.");
         Play p = Play.of("lady at 0; lady at 11 seeks; lady at 0; lady at 1; lady at 0 seeks; lady at 0; lady at 0; lady at 11;");
-        p.asked(0b01110101, "place", 0, 1).asked(0b10000010, "place", 11, 1).asked(0b00001000, "place", 1, 1).asked(0, "place", 2, 1);
+        p.asked(0b01110101, "place", 0, 1).asked(0b10000010, "place", 11, 1).asked(0b00001000, "place", 1, 1)
+            .asked(0, "place", 2, 1);
         p.asked(0b11101101, "state", 1).asked(1 << 11 | 1 << 1 | 1, "state", 4);
         Play.of("lady at 2;".repeat(8)).asked(255, "state", 1).asked(255, "place", 2, 1).asked(4, "state", 4);
         new Play().asked(0, "state", 1).asked(0, "state", 4);

@@ -21,7 +21,8 @@ final class TextEdges {
 
     private static void tape() {
         Doc.says("THE TAPE takes bytes, 200 at most;");
-        Play p = new Play().feed(" ".repeat(198)).is(198, "many", 5).asked(-2, "feed", ' ', 3).due(200, "feed", ' ' | ' ' << 8, 2);
+        Play p = new Play().feed(" ".repeat(198)).is(198, "many", 5).asked(-2, "feed", ' ', 3)
+            .due(200, "feed", ' ' | ' ' << 8, 2);
         p.asked(-2, "feed", ' ', 1).asked(-2, "feed", ' ', 8).is(200, "many", 5).due(0, "park").due(1, "feed", ' ', 1);
         // the 200th byte counts
         new Play().feed(" ".repeat(193) + "peep 7;").is(200, "many", 5).due(0, "park").is(7, "lawOf", 3);
@@ -33,17 +34,20 @@ final class TextEdges {
     }
 
     private static void text() {
-        Doc.says("TEXT: { KIND at N [ age N ] [ wit N ] [ seeks ] ; | cover N is N ; | out N ; | dark N ; | lamp N ; | peep N ; }");
+        Doc.says("TEXT: { KIND at N [ age N ] [ wit N ] [ seeks ] ; | cover N is N ; | out N ; | dark N ; | lamp N ; | "
+            + "peep N ; }");
         new Play().due(0, "park");
         new Play().feed("   ").due(0, "park");
         String[] stand = {"lady at 3;", "lady at 3 age 1;", "lady at 3 wit 1;", "lady at 3 seeks;", "lady at 3 age 1 wit 1;",
             "lady at 3 age 1 seeks;", "lady at 3 wit 1 seeks;", "lady at 3 age 1 wit 1 seeks;"};
         for (String s : stand) {
-            new Play().feed(s).due(1, "park").one(0, 5, s.contains("age") ? 1 : 0, s.contains("wit") ? 1 : 0, 3, s.contains("seeks") ? 0 : 1, 0);
+            new Play().feed(s).due(1, "park")
+                .one(0, 5, s.contains("age") ? 1 : 0, s.contains("wit") ? 1 : 0, 3, s.contains("seeks") ? 0 : 1, 0);
         }
         String[] laws = {"cover 3 is 1;", "out 1;", "dark 1;", "lamp 1;", "peep 1;"};
         for (String s : laws) new Play().feed(s).due(0, "park");
-        Play.of(String.join("", laws) + stand[0]).is(1, "lawOf", 0).is(1, "lawOf", 1).is(1, "lawOf", 2).is(1, "lawOf", 3).is(1, "place", 3, 0).is(1, "many", 0);
+        Play.of(String.join("", laws) + stand[0]).is(1, "lawOf", 0).is(1, "lawOf", 1).is(1, "lawOf", 2).is(1, "lawOf", 3)
+            .is(1, "place", 3, 0).is(1, "many", 0);
         // in that order, each once at most
         fault("lady at 3 wit 1 age 1;", 16);
         fault("lady at 3 seeks wit 1;", 16);
@@ -86,7 +90,8 @@ final class TextEdges {
         fault("lady at 12;", 8);
         fault("knave at 1;", 0);
         Doc.says("AGE, WIT (0 without);");
-        Play.of("child at 4 age 99 wit 9; child at 4; child at 4 age 0 wit 0; child at 4 age 98; child at 4 wit 8;").one(0, 0, 99, 9, 4, 1, 0)
+        Play.of("child at 4 age 99 wit 9; child at 4; child at 4 age 0 wit 0; child at 4 age 98; child at 4 wit 8;")
+            .one(0, 0, 99, 9, 4, 1, 0)
             .one(1, 0, 0, 0, 4, 1, 0).one(2, 0, 0, 0, 4, 1, 0).one(3, 0, 98, 0, 4, 1, 0).one(4, 0, 0, 8, 4, 1, 0);
         fault("child at 4 age 100;", 15);
         fault("child at 4 wit 10;", 15);
@@ -96,7 +101,8 @@ final class TextEdges {
 
     private static void coverAndLaws() {
         Doc.says("cover: of a PLACE.");
-        Play p = Play.of("cover 0 is 0; cover 11 is 9; cover 5 is 1; cover 5 is 2;").is(0, "place", 0, 0).is(9, "place", 11, 0).is(2, "place", 5, 0);
+        Play p = Play.of("cover 0 is 0; cover 11 is 9; cover 5 is 1; cover 5 is 2;").is(0, "place", 0, 0).is(9, "place", 11, 0)
+            .is(2, "place", 5, 0);
         p.is(3 * 9 + 11, "state", 5);
         fault("cover 12 is 1;", 6);
         fault("cover 1 is 10;", 11);
@@ -113,15 +119,19 @@ final class TextEdges {
     private static void allByItAlone() {
         Doc.says("It is all by it alone (what it doesn't tell is as at first);");
         int[] laws = {60, 2, 1, 20};
-        Play p = TermsEdges.rich().due(1, "park").one(0, 5, 0, 0, 2, 1, 0).is(1, "many", 0).is(0, "state", 0).is(36, "state", 5).is(0, "state", 3);
+        Play p = TermsEdges.rich().due(1, "park").one(0, 5, 0, 0, 2, 1, 0).is(1, "many", 0).is(0, "state", 0).is(36, "state", 5)
+            .is(0, "state", 3);
         for (int law = 0; law < 4; law++) p.is(law == 2 ? 7 : laws[law], "lawOf", law);
         p.is(1, "state", 1).due(0, "park").is(0, "many", 0).is(0, "state", 1).is(1, "lawOf", 2);
         // of a full park that has found much nothing is left
-        Play q = Play.of("lady at 0 seeks; lady at 0; cover 0 is 0; dark 0;" + "lady at 7;".repeat(6)).due(7, "years", 3).is(2, "state", 3);
-        q.feed("lady at 1; lady at 1 seeks;").due(2, "park").is(0, "state", 3).is(1, "state", 1).is(3, "place", 1, 1).is(0, "place", 7, 1).is(2, "many", 3);
+        Play q = Play.of("lady at 0 seeks; lady at 0; cover 0 is 0; dark 0;" + "lady at 7;".repeat(6)).due(7, "years", 3)
+            .is(2, "state", 3);
+        q.feed("lady at 1; lady at 1 seeks;").due(2, "park").is(0, "state", 3).is(1, "state", 1).is(3, "place", 1, 1)
+            .is(0, "place", 7, 1).is(2, "many", 3);
         q.due(2, "person", 0, 0, 0, 0, 0).one(2, 0, 0, 0, 0, 1, 0);
         Doc.says("z stays.");
-        new Play().due(1, "seed", -5).due(0, "park").due(-5, "seed", 7).feed("lady at 1;").due(1, "park").due(7, "seed", 8).feed("x").due(-100, "park").due(8, "seed", 9);
+        new Play().due(1, "seed", -5).due(0, "park").due(-5, "seed", 7).feed("lady at 1;").due(1, "park").due(7, "seed", 8)
+            .feed("x").due(-100, "park").due(8, "seed", 9);
     }
 
     private static void names() {
@@ -146,9 +156,11 @@ final class TextEdges {
             fault("out " + (char) b + ";", 4);
             fault("out 1" + (char) b + ";", 5);
         }
-        for (int digit = 0; digit < 10; digit++) Play.of("out " + digit + "; peep 00" + digit + ";").is(digit, "lawOf", 0).is(digit, "lawOf", 3);
+        for (int digit = 0; digit < 10; digit++) Play.of("out " + digit + "; peep 00" + digit + ";").is(digit, "lawOf", 0)
+            .is(digit, "lawOf", 3);
         Play.of("out 1; peep 12;").is(1, "lawOf", 0).is(12, "lawOf", 3);
-        Play.of("out 012; peep 000; dark 009; lamp 08; lady at 011 age 099 wit 009;").is(12, "lawOf", 0).is(0, "lawOf", 3).is(9, "lawOf", 1).is(8, "lawOf", 2)
+        Play.of("out 012; peep 000; dark 009; lamp 08; lady at 011 age 099 wit 009;").is(12, "lawOf", 0).is(0, "lawOf", 3)
+            .is(9, "lawOf", 1).is(8, "lawOf", 2)
             .one(0, 5, 99, 9, 11, 1, 0);
         fault("out 0012;", 4);
         fault("out 0000;", 4);
@@ -192,7 +204,8 @@ final class TextEdges {
     }
 
     private static void faultPlaces() {
-        Doc.says("FAULT: the place (from 0) of the first byte of the first NAME, NUMBER or other byte that can't stand there or is not as told");
+        Doc.says("FAULT: the place (from 0) of the first byte of the first NAME, NUMBER or other byte that can't stand "
+            + "there or is not as told");
         fault("x", 0);
         fault("   x", 3);
         fault("7", 0);

@@ -25,8 +25,10 @@ final class TriedEdges {
         Doc.says("What is asked here is TRIED; nothing changes.");
         Play p = TermsEdges.rich();
         p.asked(9, "where", 1, 60).asked(56, "shown", 0).asked(15, "shown", 2).asked(56, "all").asked(-3, "finder", 2);
-        p.asked(0, "safeFor", 2).asked(5, "kindFor", 2).asked(1, "witFor", 0, 20).asked(-3, "needed", 2).asked(-3, "fewest", 0, 20);
-        p.asked(2, "round", 3).asked(0, "fits", 0, 0, 0).asked(10, "fits", 2, 0, 0).asked(9, "odds", 2, 2, 0).asked(3, "hope", 10, 0);
+        p.asked(0, "safeFor", 2).asked(5, "kindFor", 2).asked(1, "witFor", 0, 20).asked(-3, "needed", 2)
+            .asked(-3, "fewest", 0, 20);
+        p.asked(2, "round", 3).asked(0, "fits", 0, 0, 0).asked(10, "fits", 2, 0, 0).asked(9, "odds", 2, 2, 0)
+            .asked(3, "hope", 10, 0);
         p.asked(1, "place", 5, 2).asked(p.call("nights", 30), "nights", 30);
     }
 
@@ -39,8 +41,11 @@ final class TriedEdges {
         Play q = Play.of("lady at 0; lady at 1 age 1; lady at 2 seeks; lady at 3 age 59; lady at 4 age 99;");
         q.asked(60, "shown", 0).asked(59, "shown", 1).asked(0, "shown", 2).asked(1, "shown", 3).asked(1, "shown", 4);
         q.due(60, "set", 0, 61).asked(-3, "shown", 0).asked(60, "shown", 1).asked(2, "shown", 3);
+        // it comes out of 60, finds 1 and is HIDDEN again, all in the first YEAR: behind it it doesn't SEEK
+        Play.of("child at 0 age 59 wit 9; lady at 1;").asked(2, "shown", 0);
         // first, though it is HIDDEN again later
-        Play.of("child at 4; child at 3 wit 9 seeks; child at 6; cover 6 is 0;").asked(1, "shown", 0).due(2, "years", 3).is(1, "of", 0, 4);
+        Play.of("child at 4; child at 3 wit 9 seeks; child at 6; cover 6 is 0;").asked(1, "shown", 0).due(2, "years", 3)
+            .is(1, "of", 0, 4);
         Doc.says("ALL: behind the fewest (0 to 60) nobody is HIDDEN first.");
         new Play().asked(0, "all");
         Play.of("lady at 0 seeks; lady at 0 seeks;").asked(0, "all");
@@ -55,7 +60,8 @@ final class TriedEdges {
         // 0 is the number of one, too
         Play.of("child at 3 wit 9 seeks; child at 4;").asked(0, "finder", 1);
         // found in the 60th YEAR by one that comes out in it; not SHOWN by then one YEAR earlier
-        Play q = shownBehind60(3).asked(60, "shown", 0).asked(1, "finder", 0).due(10, "age", 1, 9).asked(-3, "shown", 0).asked(-3, "finder", 0);
+        Play q = shownBehind60(3).asked(60, "shown", 0).asked(1, "finder", 0).due(10, "age", 1, 9).asked(-3, "shown", 0)
+            .asked(-3, "finder", 0);
         q.due(9, "age", 1, 99).asked(-3, "finder", 1);
     }
 
@@ -79,7 +85,8 @@ final class TriedEdges {
         p.due(0, "seek", 0, 1).asked(0, "safeFor", 0).due(0, "bring", 1, 7).asked(7, "safeFor", 0);
         Doc.says("(not at all within 60 YEARS: later than all);");
         shownBehind60(3).asked(60, "shown", 0).asked(1, "safeFor", 0);
-        Play q = Play.of("child at 0; child at 4 wit 6 seeks; out 99; cover 11 is 9;").due(3, "cover", 5, 8).asked(11, "safeFor", 0);
+        Play q = Play.of("child at 0; child at 4 wit 6 seeks; out 99; cover 11 is 9;").due(3, "cover", 5, 8)
+            .asked(11, "safeFor", 0);
         q.due(9, "cover", 11, 8).asked(4, "safeFor", 0).due(0, "mind", 0, 0, 1).asked(5, "safeFor", 0);
         Doc.says("of several the least.");
         Play.of("lady at 6; lady at 7;").asked(0, "safeFor", 0).asked(0, "safeFor", 1);
@@ -93,8 +100,9 @@ final class TriedEdges {
         // a keeper hides 0, a scholar of 10 hides 1, a widower 1, a grandson 3, a child and a lady more than 1 sees
         Play p = Play.of("widower at 4 age 9; child at 3 seeks; out 99;").asked(0, "kindFor", 0);
         p.due(3, "cover", 4, 2).asked(3, "kindFor", 0).due(1, "mind", 0, 2, 1).asked(0, "kindFor", 0);
-        // as it is now: it SEEKS
-        p.due(0, "seek", 0, 1).asked(0, "kindFor", 0);
+        // as it is now: it SEEKS, and so does one of each KIND, though as a lady it would not be found if it were HIDDEN
+        Play q = Play.of("child at 4 seeks; lady at 4 wit 5 seeks; dark 9;").asked(0, "kindFor", 0).due(1, "seek", 0, 0);
+        q.asked(5, "kindFor", 0);
         Doc.says("of several the least.");
         Play.of("lady at 6;").asked(0, "kindFor", 0);
         // a scholar of 50 (3 + 3 - 3 + 5) and a lady (3 + 3 + 2) alone are not seen by 8
@@ -103,11 +111,13 @@ final class TriedEdges {
 
     private static void witFor() {
         Doc.says("WIT FOR one, n: the least WIT (0 to 9) with which it is HIDDEN behind n YEARS.");
-        Play p = Play.of("child at 4 wit 5; child at 3 seeks; out 99;").asked(0, "witFor", 0, 1).due(3, "cover", 4, 2).asked(1, "witFor", 0, 1);
+        Play p = Play.of("child at 4 wit 5; child at 3 seeks; out 99;").asked(0, "witFor", 0, 1).due(3, "cover", 4, 2)
+            .asked(1, "witFor", 0, 1);
         p.due(2, "cover", 4, 0).asked(3, "witFor", 0, 1).due(0, "mind", 1, 0, 6).asked(9, "witFor", 0, 1);
         p.due(0, "mind", 1, 0, 7).asked(-3, "witFor", 0, 1).is(5, "of", 0, 2);
         // behind n YEARS, though it was found before: 0 finds 2 in the fourth
-        Play.of("child at 4; child at 3 wit 9 seeks; child at 7 wit 1; cover 4 is 2; cover 7 is 0;").asked(-3, "witFor", 0, 3).asked(0, "witFor", 0, 4);
+        Play.of("child at 4; child at 3 wit 9 seeks; child at 7 wit 1; cover 4 is 2; cover 7 is 0;").asked(-3, "witFor", 0, 3)
+            .asked(0, "witFor", 0, 4);
     }
 
     private static void needed() {
@@ -143,64 +153,80 @@ final class TriedEdges {
         Play.of("lady at 0 age 40;").asked(0, "fewest", 0, 20).asked(-3, "fewest", 0, 19);
         Play.of("child at 4; child at 3 wit 9 seeks; out 99;").asked(0b10, "fewest", 0, 1).asked(0b10, "fewest", 0, 20);
         Doc.says("of several the least.");
-        Play.of("child at 4; child at 3 wit 9 seeks; child at 3 wit 9 seeks; keeper at 5 wit 9 seeks;").asked(0b0010, "fewest", 0, 1);
+        Play.of("child at 4; child at 3 wit 9 seeks; child at 3 wit 9 seeks; keeper at 5 wit 9 seeks;")
+            .asked(0b0010, "fewest", 0, 1);
         Play.of("child at 3 wit 9 seeks; child at 3 wit 9 seeks; child at 4;").asked(0b001, "fewest", 2, 1);
     }
 
     private static void round() {
-        Doc.says("ROUND from a PLACE: the fewest steps (each to a PLACE next to it, either way) by which all PLACES AT which one is HIDDEN are come to");
+        Doc.says("ROUND from a PLACE: the fewest steps (each to a PLACE next to it, either way) by which all PLACES AT "
+            + "which one is HIDDEN are come to");
         Play p = Play.of("lady at 3; lady at 5 seeks;");
         int[] steps = {3, 2, 1, 0, 1, 2, 3, 4, 5, 6, 5, 4};
         for (int place = 0; place < 12; place++) p.asked(steps[place], "round", place);
         // back over 0 and on: the shorter way twice
-        Play.of("lady at 11; lady at 2;").asked(4, "round", 0).asked(4, "round", 1).asked(3, "round", 2).asked(3, "round", 11).asked(7, "round", 6);
+        Play.of("lady at 11; lady at 2;").asked(4, "round", 0).asked(4, "round", 1).asked(3, "round", 2).asked(3, "round", 11)
+            .asked(7, "round", 6);
         Play.of("lady at 10; lady at 3;").asked(7, "round", 0).asked(5, "round", 3).asked(8, "round", 6);
         // all round but one step
-        Play all = Play.of("lady at 0; lady at 2; lady at 4; lady at 6; lady at 8; lady at 10;").asked(10, "round", 0).asked(11, "round", 1);
+        Play all = Play.of("lady at 0; lady at 2; lady at 4; lady at 6; lady at 8; lady at 10;").asked(10, "round", 0)
+            .asked(11, "round", 1);
         all.asked(11, "round", 11);
-        Play.of("lady at 1; lady at 3; lady at 4; lady at 6; lady at 7; lady at 9; lady at 10; lady at 11;").asked(11, "round", 0).asked(10, "round", 11);
+        Play.of("lady at 1; lady at 3; lady at 4; lady at 6; lady at 7; lady at 9; lady at 10; lady at 11;").asked(11, "round", 0)
+            .asked(10, "round", 11);
         Doc.says("(0, if there are none, or all are there).");
         new Play().asked(0, "round", 0).asked(0, "round", 11);
         Play.of("lady at 4 seeks;").asked(0, "round", 8);
         Play.of("lady at 11; lady at 11; lady at 3 seeks;").asked(0, "round", 11);
         Doc.says("HELD of a PLACE: how many are HIDDEN AT it.");
         new Play().asked(0, "place", 0, 2);
-        Play.of("lady at 4;".repeat(8)).asked(8, "place", 4, 2).asked(0, "place", 3, 2).asked(0, "place", 5, 2).due(0, "seek", 7, 1).asked(7, "place", 4, 2);
+        Play.of("lady at 4;".repeat(8)).asked(8, "place", 4, 2).asked(0, "place", 3, 2).asked(0, "place", 5, 2)
+            .due(0, "seek", 7, 1).asked(7, "place", 4, 2);
     }
 
     private static void fits() {
-        Doc.says("FITS of one by a SHEET: those WITS (0 to 9) of it now with which its PLACE is, behind 1, 2, .. YEARS, what the numbers of the SHEET tell, one by one (-1: any).");
+        Doc.says("FITS of one by a SHEET: those WITS (0 to 9) of it now with which its PLACE is, behind 1, 2, .. YEARS, "
+            + "what the numbers of the SHEET tell, one by one (-1: any).");
         // 1 sees 6 and comes to 4 behind 2 YEARS: one of wit 0 to 2 is found there, and goes in the third
-        Play p = Play.of("child at 4 wit 9; child at 2 wit 3 seeks; out 99;").due(1, "sheet", 0, 2, 0).asked(10, "fits", 0, 0, 0).asked(0, "fits", 0, 0, 1);
+        Play p = Play.of("child at 4 wit 9; child at 2 wit 3 seeks; out 99;").due(1, "sheet", 0, 2, 0).asked(10, "fits", 0, 0, 0)
+            .asked(0, "fits", 0, 0, 1);
         for (int sort = 0; sort < 4; sort++) {
             p.call("sheet", 0, sort, 3);
             p.asked(0, "fits", 0, 0, 0).asked(-3, "fits", 0, 0, 1);
-            p.due(1, "put", 0, 0, 4).due(1, "put", 0, 1, -1).due(1, "put", 0, 2, 5).asked(3, "fits", 0, 0, 0).asked(0, "fits", 0, 0, 1);
+            p.due(1, "put", 0, 0, 4).due(1, "put", 0, 1, -1).due(1, "put", 0, 2, 5).asked(3, "fits", 0, 0, 0)
+                .asked(0, "fits", 0, 0, 1);
             p.due(1, "put", 0, 2, 4).asked(7, "fits", 0, 0, 0).asked(3, "fits", 0, 0, 1);
             p.due(1, "put", 0, 2, -1).asked(10, "fits", 0, 0, 0).due(1, "put", 0, 1, 5).asked(0, "fits", 0, 0, 0);
             // of it now: WIT stays
             p.is(9, "of", 0, 2);
         }
         // a PLACE round, not a number that would be one: 12 and -2 fit nobody
-        Play q = Play.of("child at 11 seeks;").due(1, "sheet", 0, 0, 1).asked(10, "fits", 0, 0, 0).due(1, "put", 0, 0, 12).asked(0, "fits", 0, 0, 0);
-        q.due(1, "put", 0, 0, -2).asked(0, "fits", 0, 0, 0).due(1, "put", 0, 0, 255).asked(10, "fits", 0, 0, 0).due(1, "put", 0, 0, 256).asked(10, "fits", 0, 0, 0);
-        q.due(1, "sheet", 0, 1, 1).due(1, "put", 0, 0, 255).asked(0, "fits", 0, 0, 0).due(1, "put", 0, 0, 65535).asked(10, "fits", 0, 0, 0);
-        q.due(1, "sheet", 0, 2, 1).due(1, "put", 0, 0, 65535).asked(0, "fits", 0, 0, 0).due(1, "put", 0, 0, Integer.MIN_VALUE).asked(0, "fits", 0, 0, 0);
+        Play q = Play.of("child at 11 seeks;").due(1, "sheet", 0, 0, 1).asked(10, "fits", 0, 0, 0).due(1, "put", 0, 0, 12)
+            .asked(0, "fits", 0, 0, 0);
+        q.due(1, "put", 0, 0, -2).asked(0, "fits", 0, 0, 0).due(1, "put", 0, 0, 255).asked(10, "fits", 0, 0, 0)
+            .due(1, "put", 0, 0, 256).asked(10, "fits", 0, 0, 0);
+        q.due(1, "sheet", 0, 1, 1).due(1, "put", 0, 0, 255).asked(0, "fits", 0, 0, 0).due(1, "put", 0, 0, 65535)
+            .asked(10, "fits", 0, 0, 0);
+        q.due(1, "sheet", 0, 2, 1).due(1, "put", 0, 0, 65535).asked(0, "fits", 0, 0, 0).due(1, "put", 0, 0, Integer.MIN_VALUE)
+            .asked(0, "fits", 0, 0, 0);
         // forty YEARS, the last of which tells
         Play forty = Play.of("child at 11 seeks;").due(1, "sheet", 3, 3, 40);
         for (int i = 0; i < 40; i++) forty.due(1, "put", 3, i, i % 12);
-        forty.asked(10, "fits", 3, 0, 0).due(1, "put", 3, 39, 4).asked(0, "fits", 3, 0, 0).due(1, "put", 3, 39, -1).asked(10, "fits", 3, 0, 0);
+        forty.asked(10, "fits", 3, 0, 0).due(1, "put", 3, 39, 4).asked(0, "fits", 3, 0, 0).due(1, "put", 3, 39, -1)
+            .asked(10, "fits", 3, 0, 0);
     }
 
     private static void oddsAndHope() {
         Doc.says("ODDS by n, k: that in n nights just k are peeped at, each by PEEP of a hundred.");
-        Play p = Play.of("peep 99;").asked(1, "odds", 0, 0, 0).asked(99, "odds", 1, 1, 0).asked(100, "odds", 1, 1, 1).asked(1, "odds", 1, 0, 0);
+        Play p = Play.of("peep 99;").asked(1, "odds", 0, 0, 0).asked(99, "odds", 1, 1, 0).asked(100, "odds", 1, 1, 1)
+            .asked(1, "odds", 1, 0, 0);
         p.asked(9227446944279201L, "odds", 8, 8, 0).asked(10000000000000000L, "odds", 8, 8, 1).asked(1, "odds", 8, 0, 0);
         p.asked(10000000000000000L, "odds", 8, 0, 1).asked(99, "odds", 2, 1, 0).asked(5000, "odds", 2, 1, 1);
         Play q = Play.of("peep 50;").asked(35, "odds", 8, 4, 0).asked(128, "odds", 8, 4, 1).due(50, "set", 3, 0);
         q.asked(1, "odds", 8, 0, 0).asked(0, "odds", 8, 1, 0).asked(1, "odds", 8, 1, 1);
         Doc.says("HOPE by n: how many are on average.");
-        Play r = Play.of("peep 99;").asked(0, "hope", 0, 0).asked(99, "hope", 1, 0).asked(100, "hope", 1, 1).asked(9801, "hope", 99, 0).asked(100, "hope", 99, 1);
+        Play r = Play.of("peep 99;").asked(0, "hope", 0, 0).asked(99, "hope", 1, 0).asked(100, "hope", 1, 1)
+            .asked(9801, "hope", 99, 0).asked(100, "hope", 99, 1);
         r.due(99, "set", 3, 1).asked(99, "hope", 99, 0).asked(100, "hope", 99, 1).asked(1, "hope", 50, 0).asked(2, "hope", 50, 1);
     }
 
@@ -272,7 +298,8 @@ final class TriedEdges {
     }
 
     private static void nights() {
-        Doc.says("NIGHTS: in how many of n YEARS BY DRAWS, each tried from how all is now (z alone goes on), more are HIDDEN than now (nothing changes, z neither).");
+        Doc.says("NIGHTS: in how many of n YEARS BY DRAWS, each tried from how all is now (z alone goes on), more are "
+            + "HIDDEN than now (nothing changes, z neither).");
         new Play().asked(0, "nights", 1).asked(0, "nights", 30);
         drawn("lady at 0; lady at 1 seeks;", 2, 1, 0).asked(1, "nights", 1);
         // fewer, as many

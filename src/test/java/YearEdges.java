@@ -35,7 +35,8 @@ final class YearEdges {
         Play most = Play.of("lady at 0 age 97; lady at 1 age 98; lady at 2 age 99; out 99;").due(1, "years", 1).is(1, "state", 1);
         most.due(0, "years", 1);
         // neither a LAW nor an AGE brings one out before a YEAR goes
-        Play now = Play.of("lady at 0;").due(0, "age", 0, 99).is(1, "of", 0, 4).due(60, "set", 0, 0).is(1, "of", 0, 4).due(0, "years", 1);
+        Play now = Play.of("lady at 0;").due(0, "age", 0, 99).is(1, "of", 0, 4).due(60, "set", 0, 0).is(1, "of", 0, 4)
+            .due(0, "years", 1);
         now.is(0, "of", 0, 4);
     }
 
@@ -62,7 +63,8 @@ final class YearEdges {
         int[] from11 = {0, 1, 10, 2, 9, 11};
         int[] from0 = {1, 2, 11, 3, 10, 0};
         for (int kind = 0; kind < 6; kind++) {
-            Play p = new Play().due(0, "person", kind, 0, 0, 11, 1).due(1, "person", kind, 0, 0, 0, 1).due(2, "person", kind, 0, 9, 6, 0);
+            Play p = new Play().due(0, "person", kind, 0, 0, 11, 1).due(1, "person", kind, 0, 0, 0, 1)
+                .due(2, "person", kind, 0, 9, 6, 0);
             p.due(1, "years", 1).is(from11[kind], "of", 0, 3).is(from0[kind], "of", 1, 3).is(6, "of", 2, 3);
         }
         Play.of("scholar at 1 seeks; grandson at 9 seeks; grandson at 10 seeks;").due(0, "years", 1)
@@ -141,7 +143,8 @@ final class YearEdges {
 
     private static void finder() {
         Doc.says("FINDS of the one that found it is 1 more (99 at most),");
-        Play p = Play.of("child at 3 wit 9 seeks; child at 4; child at 4;").due(2, "years", 1).is(1, "of", 0, 5).is(0, "of", 1, 5).is(0, "of", 2, 5);
+        Play p = Play.of("child at 3 wit 9 seeks; child at 4; child at 4;").due(2, "years", 1).is(1, "of", 0, 5).is(0, "of", 1, 5)
+            .is(0, "of", 2, 5);
         p.due(0, "seek", 0, 1).due(4, "bring", 0, 3).due(1, "years", 1).is(2, "of", 0, 5).is(2, "state", 3);
         Play most = Play.of("lady at 0 seeks; lady at 0; cover 0 is 0; dark 0; out 99;");
         for (int i = 0; i < 7; i++) most.due(1, "years", 60).due(60, "age", 0, 0).due(60, "age", 1, 0);
