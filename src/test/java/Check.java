@@ -3,7 +3,26 @@ final class Check {
     private static int asked = 0;
     private static int wrong = 0;
 
+    private static final long MOST_SECONDS = 300;
+
+    static {
+        Thread watch = new Thread(Check::endUnlessDone);
+        watch.setDaemon(true);
+        watch.start();
+    }
+
     private Check() {
+    }
+
+    /** A call that doesn't end would keep .ci/run waiting instead of failing. */
+    private static void endUnlessDone() {
+        try {
+            Thread.sleep(MOST_SECONDS * 1000);
+        } catch (InterruptedException e) {
+            return;
+        }
+        System.out.println("a call doesn't end: " + MOST_SECONDS + " seconds are over");
+        Runtime.getRuntime().halt(1);
     }
 
     static void due(String call, long got, long want) {
