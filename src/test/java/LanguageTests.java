@@ -1,4 +1,6 @@
 import java.io.IOException;
+import java.io.PrintWriter;
+import java.io.StringWriter;
 import java.lang.management.ManagementFactory;
 import java.lang.reflect.Method;
 import java.lang.reflect.Modifier;
@@ -7,9 +9,14 @@ import java.nio.file.Path;
 import java.util.ArrayList;
 import java.util.Collections;
 import java.util.List;
+import java.util.Map;
 import java.util.Random;
+import java.util.Set;
+import java.util.TreeMap;
+import java.util.TreeSet;
 import java.util.regex.Matcher;
 import java.util.regex.Pattern;
+import java.util.spi.ToolProvider;
 
 /** The public face, what of ../shared/LANGUAGE.md can be seen by a program, the room, and that no call throws. */
 final class LanguageTests {
@@ -27,7 +34,10 @@ final class LanguageTests {
 
     public static void main(String[] args) throws Exception {
         face();
+        faceAsWritten();
         words();
+        library();
+        callsInARow();
         noCallThrows();
         noCallMakesObjects();
         Check.end();
@@ -69,6 +79,21 @@ final class LanguageTests {
         Check.due("NONE", LateSeekers.NONE, -3);
     }
 
+    /** Each line of the document's face stands in the class as it is, with the names of its numbers. */
+    private static void faceAsWritten() throws IOException {
+        String doc = Files.readString(Path.of("../shared/DOC.md"));
+        String source = Files.readString(Path.of("src/main/java/LateSeekers.java"));
+        int from = doc.indexOf("```java\n") + 8;
+        int lines = 0;
+        for (String line : doc.substring(from, doc.indexOf("```", from)).split("\n")) {
+            boolean body = line.endsWith(");");
+            String due = body ? line.substring(0, line.length() - 1) + " {" : line;
+            Check.holds("as the document writes it: " + line, source.contains("\n" + due + "\n") || source.startsWith(due));
+            if (body) lines++;
+        }
+        Check.due("methods and the constructor in the document", lines, FACE.split(" ").length + 1);
+    }
+
     private static void words() throws IOException {
         String source = Files.readString(Path.of("src/main/java/LateSeekers.java"));
         Check.holds("signs are 1 to 127", source.chars().allMatch(c -> c >= 1 && c <= 127));
@@ -85,6 +110,68 @@ final class LanguageTests {
             lines = line.matches("    (    )?\\}") ? 0 : lines + 1;
             Check.holds("methods stay short, at: " + line, lines <= 75);
         }
+    }
+
+    /** Rule 4 (and what the compiler itself calls for a new object). */
+    private static final Pattern LIBRARY = Pattern.compile("java/lang/(Object\\.\"<init>\"|(Integer|Long|Math)\\.\\w+(?<!Exact)"
+        + "|String\\.(length|charAt|isEmpty|equals|indexOf|substring|toCharArray|\"<init>\")"
+        + "|StringBuilder\\.(append|charAt|setCharAt|setLength|deleteCharAt|reverse|length|toString|\"<init>\")"
+        + "|System\\.arraycopy)"
+        + "|java/util/(ArrayList|List)\\.(add|get|set|remove|size|isEmpty|clear|of|\"<init>\")"
+        + "|java/util/Arrays\\.(copyOf|copyOfRange|fill)|\"\\[\\w\"\\.clone");
+
+    /** What each method of the class and of those inside it calls, as the compiler wrote it. */
+    private static Map<String, Set<String>> calls() {
+        List<String> args = new ArrayList<>(List.of("-c", "-p", "-cp", System.getProperty("java.class.path"), "LateSeekers"));
+        for (Class<?> inside : LateSeekers.class.getDeclaredClasses()) args.add(inside.getName());
+        StringWriter listing = new StringWriter();
+        PrintWriter out = new PrintWriter(listing);
+        ToolProvider.findFirst("javap").orElseThrow().run(out, out, args.toArray(new String[0]));
+        Map<String, Set<String>> calls = new TreeMap<>();
+        String in = "";
+        String method = "";
+        for (String line : listing.toString().split("\\R")) {
+            Matcher type = Pattern.compile("(?:\\w+ )*class (\\S+).*\\{").matcher(line);
+            Matcher head = Pattern.compile("  (?:\\S+ )*([\\w$]+)\\(.*\\);").matcher(line);
+            Matcher call = Pattern.compile(".*: invoke.*Method (?:(\\S+)\\.)?(\\S+):.*").matcher(line);
+            if (type.matches()) {
+                in = type.group(1);
+            } else if (head.matches()) {
+                method = in + "." + (head.group(1).equals(in) ? "\"<init>\"" : head.group(1));
+                calls.put(method, new TreeSet<>());
+            } else if (call.matches()) {
+                calls.get(method).add((call.group(1) == null ? in : call.group(1)) + "." + call.group(2));
+            }
+        }
+        return calls;
+    }
+
+    private static void library() {
+        for (Map.Entry<String, Set<String>> e : calls().entrySet()) {
+            for (String call : e.getValue()) {
+                boolean own = call.startsWith("LateSeekers");
+                Check.holds(e.getKey() + " may call " + call, own || LIBRARY.matcher(call).matches());
+            }
+        }
+    }
+
+    /** Rule 11: eight at most, where a method that calls itself counts once; rule 8: no others go round. */
+    private static void callsInARow() {
+        Map<String, Set<String>> calls = calls();
+        Check.holds("methods are seen: " + calls.size(), calls.size() > FACE.split(" ").length);
+        for (String method : calls.keySet()) {
+            int most = mostInARow(calls, method, 0);
+            Check.holds(method + ": " + most + " calls in a row", most <= 8);
+        }
+    }
+
+    private static int mostInARow(Map<String, Set<String>> calls, String method, int open) {
+        int most = 1;
+        if (open > 20) return most;
+        for (String call : calls.getOrDefault(method, Set.of())) {
+            if (!call.equals(method)) most = Math.max(most, 1 + mostInARow(calls, call, open + 1));
+        }
+        return most;
     }
 
     private static final int[] ODD = {0, 1, -1, 2, 3, 5, 7, 8, 11, 12, 40, 60, 99, 200, Integer.MIN_VALUE, Integer.MAX_VALUE, -15, 1 << 30};
